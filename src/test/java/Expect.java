@@ -21,6 +21,16 @@ final class Expect {
         promise = name;
     }
 
+    /** Words of the document, with the test that is theirs alone: what goes wrong in it stops no other. */
+    void sentence(String words, Act ownTest) {
+        promise(words);
+        int before = checks;
+        same("no exception", thrownBy(ownTest));
+        if (checks == before + 1) {
+            tell("nothing is checked", "a check");
+        }
+    }
+
     void answer(int due, Answer call) {
         String got;
         try {
@@ -45,12 +55,31 @@ final class Expect {
         }
     }
 
+    void sectorIs(CommandTree x, int sector, int... due) {
+        for (int what = 0; what < due.length; what++) {
+            int w = what;
+            answer(due[what], () -> x.sectorAt(sector, w));
+        }
+    }
+
+    void personIs(CommandTree x, int person, int... due) {
+        for (int what = 0; what < due.length; what++) {
+            int w = what;
+            answer(due[what], () -> x.personAt(person, w));
+        }
+    }
+
+    void taskIs(CommandTree x, int task, int... due) {
+        for (int what = 0; what < due.length; what++) {
+            int w = what;
+            answer(due[what], () -> x.taskAt(task, w));
+        }
+    }
+
     void same(String due, String got) {
         checks++;
         if (!due.equals(got)) {
-            wrong++;
-            System.out.println(test + ", " + promise + ", line " + callerLine()
-                    + ": answered " + got + ", due is " + due);
+            tell(got, due);
         }
     }
 
@@ -59,6 +88,12 @@ final class Expect {
         if (wrong != 0 || checks == 0) {
             System.exit(1);
         }
+    }
+
+    private void tell(String got, String due) {
+        wrong++;
+        System.out.println(test + ", " + promise + ", line " + callerLine()
+                + ": answered " + got + ", due is " + due);
     }
 
     private static String thrownBy(Act call) {

@@ -40,54 +40,18 @@ public final class PromisesTest {
         expect.end();
     }
 
-    /** Persons of these ranks, all arrived in the order of their numbers: 0 leads sector 0. */
-    private static CommandTree sceneWith(int... ranks) {
-        CommandTree x = new CommandTree();
-        for (int rank : ranks) {
-            x.arrive(x.person(rank));
-        }
-        return x;
-    }
-
-    private static void splitTimes(CommandTree x, int sector, int times) {
-        for (int i = 0; i < times; i++) {
-            x.split(sector);
-        }
-    }
-
-    private static void sectorIs(CommandTree x, int sector, int... due) {
-        for (int what = 0; what < due.length; what++) {
-            int w = what;
-            expect.answer(due[what], () -> x.sectorAt(sector, w));
-        }
-    }
-
-    private static void personIs(CommandTree x, int person, int... due) {
-        for (int what = 0; what < due.length; what++) {
-            int w = what;
-            expect.answer(due[what], () -> x.personAt(person, w));
-        }
-    }
-
-    private static void taskIs(CommandTree x, int task, int... due) {
-        for (int what = 0; what < due.length; what++) {
-            int w = what;
-            expect.answer(due[what], () -> x.taskAt(task, w));
-        }
-    }
-
     private static void newObject() {
         expect.promise("promise 1, a new object");
         CommandTree x = new CommandTree();
-        sectorIs(x, 0, 1, -1, -1, 0, 0, -1, 0, 0);
+        expect.sectorIs(x, 0, 1, -1, -1, 0, 0, -1, 0, 0);
         expect.answer(0, x::clock);
         expect.answer(-1, () -> x.led(0, 0));
         expect.answer(-1, () -> x.passed(0));
         expect.refuses(UNKNOWN, () -> x.sectorAt(1, 0), () -> x.personAt(0, 0), () -> x.unitAt(0),
                 () -> x.taskAt(0, 0), () -> x.led(1, 0), () -> x.arrive(0), () -> x.answer(0, true));
-        CommandTree y = sceneWith(3);
-        sectorIs(x, 0, 1, -1, -1, 0);
-        sectorIs(y, 0, 1, 0, -1, 1);
+        CommandTree y = Scene.withRanks(3);
+        expect.sectorIs(x, 0, 1, -1, -1, 0);
+        expect.sectorIs(y, 0, 1, 0, -1, 1);
     }
 
     private static void person() {
@@ -98,12 +62,12 @@ public final class PromisesTest {
             int rank = i % 10;
             expect.answer(i, () -> x.person(rank));
         }
-        personIs(x, 39, -1, -1, -1);
+        expect.personIs(x, 39, -1, -1, -1);
         expect.refuses(ROOM, () -> x.person(0), () -> x.person(9));
         expect.refuses(RANGE, () -> x.person(10), () -> x.person(-1));
         expect.refuses(UNKNOWN, () -> x.personAt(40, 0));
         expect.passes(() -> x.arrive(39));
-        sectorIs(x, 0, 1, 39, -1, 1);
+        expect.sectorIs(x, 0, 1, 39, -1, 1);
     }
 
     private static void unit() {
@@ -124,36 +88,36 @@ public final class PromisesTest {
         x.person(9);
         x.tick(7);
         expect.passes(() -> x.arrive(0));
-        personIs(x, 0, 0, 0, 7);
+        expect.personIs(x, 0, 0, 0, 7);
         x.tick(1);
         expect.passes(() -> x.arrive(1));
-        personIs(x, 1, 0, -1, 8);
-        sectorIs(x, 0, 1, 0, -1, 2);
+        expect.personIs(x, 1, 0, -1, 8);
+        expect.sectorIs(x, 0, 1, 0, -1, 2);
         expect.refuses(STATE, () -> x.arrive(0), () -> x.arrive(1));
         expect.refuses(UNKNOWN, () -> x.arrive(2), () -> x.arrive(-1), () -> x.arrive(LOW), () -> x.arrive(HIGH));
         x.split(0);
         x.go(0, 1);
         expect.refuses(STATE, () -> x.arrive(0));
-        personIs(x, 0, 1, 1, 7);
+        expect.personIs(x, 0, 1, 1, 7);
     }
 
     private static void leave() {
         expect.promise("promise 5, leave");
-        CommandTree x = sceneWith(3);
+        CommandTree x = Scene.withRanks(3);
         x.person(2);
         expect.refuses(STATE, () -> x.leave(1));
         expect.refuses(UNKNOWN, () -> x.leave(2), () -> x.leave(-1), () -> x.leave(LOW), () -> x.leave(HIGH));
         expect.passes(() -> x.leave(0));
-        personIs(x, 0, -1, -1, -1);
-        sectorIs(x, 0, 1, -1, -1, 0);
+        expect.personIs(x, 0, -1, -1, -1);
+        expect.sectorIs(x, 0, 1, -1, -1, 0);
         expect.refuses(STATE, () -> x.leave(0));
         x.tick(4);
         x.arrive(1);
         x.arrive(0);
-        personIs(x, 0, 0, -1, 4);
-        sectorIs(x, 0, 1, 1, -1, 2);
+        expect.personIs(x, 0, 0, -1, 4);
+        expect.sectorIs(x, 0, 1, 1, -1, 2);
         expect.passes(() -> x.leave(0));
-        sectorIs(x, 0, 1, 1, -1, 1);
+        expect.sectorIs(x, 0, 1, 1, -1, 1);
     }
 
     private static void next() {
@@ -188,30 +152,30 @@ public final class PromisesTest {
 
     private static void go() {
         expect.promise("promise 6, go");
-        CommandTree x = sceneWith(2, 5, 7);
+        CommandTree x = Scene.withRanks(2, 5, 7);
         x.person(1);
-        splitTimes(x, 0, 2);
+        Scene.split(x, 0, 2);
         expect.refuses(UNKNOWN, () -> x.go(4, 0), () -> x.go(-1, 0), () -> x.go(0, 3), () -> x.go(0, -1),
                 () -> x.go(LOW, HIGH), () -> x.go(3, 3));
         expect.refuses(STATE, () -> x.go(3, 1), () -> x.go(0, 0));
         x.tick(9);
         expect.passes(() -> x.go(0, 1));
-        sectorIs(x, 0, 1, 2, -1, 2);
-        sectorIs(x, 1, 1, 0, 0, 1);
-        personIs(x, 0, 1, 1, 0);
+        expect.sectorIs(x, 0, 1, 2, -1, 2);
+        expect.sectorIs(x, 1, 1, 0, 0, 1);
+        expect.personIs(x, 0, 1, 1, 0);
         expect.passes(() -> x.go(1, 1));
-        sectorIs(x, 1, 1, 0, 0, 2);
-        personIs(x, 1, 1, -1, 0);
+        expect.sectorIs(x, 1, 1, 0, 0, 2);
+        expect.personIs(x, 1, 1, -1, 0);
         expect.passes(() -> x.go(2, 1));
-        sectorIs(x, 0, 1, -1, -1, 0);
-        sectorIs(x, 1, 1, 0, 0, 3);
-        personIs(x, 2, 1, -1, 0);
+        expect.sectorIs(x, 0, 1, -1, -1, 0);
+        expect.sectorIs(x, 1, 1, 0, 0, 3);
+        expect.personIs(x, 2, 1, -1, 0);
         expect.passes(() -> x.go(0, 2));
-        sectorIs(x, 1, 1, 2, 0, 2);
+        expect.sectorIs(x, 1, 1, 2, 0, 2);
         x.join(2, 1);
         expect.refuses(STATE, () -> x.go(0, 2));
         expect.passes(() -> x.go(1, 0));
-        sectorIs(x, 0, 1, 1, -1, 1);
+        expect.sectorIs(x, 0, 1, 1, -1, 1);
     }
 
     private static void place() {
@@ -219,15 +183,15 @@ public final class PromisesTest {
         CommandTree x = new CommandTree();
         x.unit();
         x.unit();
-        splitTimes(x, 0, 2);
+        Scene.split(x, 0, 2);
         expect.refuses(STATE, () -> x.place(0, -1));
         expect.passes(() -> x.place(0, 0));
         expect.answer(0, () -> x.unitAt(0));
         expect.refuses(STATE, () -> x.place(0, 0));
         expect.passes(() -> x.place(0, 2));
         expect.passes(() -> x.place(1, 2));
-        sectorIs(x, 0, 1, -1, -1, 0, 0);
-        sectorIs(x, 2, 1, -1, 0, 0, 2);
+        expect.sectorIs(x, 0, 1, -1, -1, 0, 0);
+        expect.sectorIs(x, 2, 1, -1, 0, 0, 2);
         expect.refuses(UNKNOWN, () -> x.place(2, 0), () -> x.place(-1, 0), () -> x.place(0, 3),
                 () -> x.place(0, -2), () -> x.place(LOW, -1), () -> x.place(0, LOW), () -> x.place(0, HIGH));
         expect.passes(() -> x.place(1, -1));
@@ -238,11 +202,11 @@ public final class PromisesTest {
 
     private static void split() {
         expect.promise("promise 8, split");
-        CommandTree x = sceneWith(4);
+        CommandTree x = Scene.withRanks(4);
         expect.answer(1, () -> x.split(0));
         expect.answer(2, () -> x.split(1));
-        sectorIs(x, 1, 1, -1, 0, 0, 0, -1, 0, 1);
-        sectorIs(x, 2, 1, -1, 1, 0, 0, -1, 0, 0);
+        expect.sectorIs(x, 1, 1, -1, 0, 0, 0, -1, 0, 1);
+        expect.sectorIs(x, 2, 1, -1, 1, 0, 0, -1, 0, 0);
         expect.refuses(UNKNOWN, () -> x.split(3), () -> x.split(-1), () -> x.split(LOW), () -> x.split(HIGH));
         x.join(2, 0);
         expect.refuses(STATE, () -> x.split(2));
@@ -259,7 +223,7 @@ public final class PromisesTest {
     private static void join() {
         expect.promise("promise 9, join");
         CommandTree x = new CommandTree();
-        splitTimes(x, 0, 2);
+        Scene.split(x, 0, 2);
         x.split(1);
         x.split(3);
         x.split(1);
@@ -270,24 +234,24 @@ public final class PromisesTest {
         x.place(x.unit(), 1);
         x.place(x.unit(), 3);
         expect.passes(() -> x.join(5, 4));
-        sectorIs(x, 5, 0, -1, 1, 0, 0, -1, 0, 0);
+        expect.sectorIs(x, 5, 0, -1, 1, 0, 0, -1, 0, 0);
         expect.passes(() -> x.join(1, 2));
-        sectorIs(x, 1, 0, -1, 0, 0, 0, -1, 0, 0);
-        sectorIs(x, 2, 1, -1, 0, 0, 1, -1, 0, 1);
-        sectorIs(x, 3, 1, -1, 2, 0, 1, -1, 0, 1);
-        sectorIs(x, 5, 0, -1, 1);
+        expect.sectorIs(x, 1, 0, -1, 0, 0, 0, -1, 0, 0);
+        expect.sectorIs(x, 2, 1, -1, 0, 0, 1, -1, 0, 1);
+        expect.sectorIs(x, 3, 1, -1, 2, 0, 1, -1, 0, 1);
+        expect.sectorIs(x, 5, 0, -1, 1);
         expect.answer(1, () -> x.sectorAt(0, 7));
         expect.refuses(STATE, () -> x.join(1, 2), () -> x.join(2, 1), () -> x.join(1, 1), () -> x.join(2, 4));
         expect.passes(() -> x.join(3, 2));
-        sectorIs(x, 4, 1, -1, 2);
+        expect.sectorIs(x, 4, 1, -1, 2);
         expect.passes(() -> x.join(2, 0));
-        sectorIs(x, 0, 1, -1, -1, 0, 2, -1, 0, 1);
+        expect.sectorIs(x, 0, 1, -1, -1, 0, 2, -1, 0, 1);
     }
 
     private static void joinAndLeaders() {
         expect.promise("promise 9, join and leaders");
-        CommandTree x = sceneWith(0, 1, 3, 3, 2);
-        splitTimes(x, 0, 3);
+        CommandTree x = Scene.withRanks(0, 1, 3, 3, 2);
+        Scene.split(x, 0, 3);
         x.go(1, 1);
         x.go(2, 1);
         x.go(3, 1);
@@ -296,17 +260,17 @@ public final class PromisesTest {
         x.offer(3, 2);
         x.tick(5);
         expect.passes(() -> x.join(1, 2));
-        sectorIs(x, 1, 0, -1, 0, 0, 0, -1);
-        sectorIs(x, 2, 1, 2, 0, 3, 0, -1);
-        sectorIs(x, 3, 1, 4, 0, 1, 0, -1);
-        personIs(x, 1, 2, -1, 0);
-        personIs(x, 2, 2, 2, 0);
+        expect.sectorIs(x, 1, 0, -1, 0, 0, 0, -1);
+        expect.sectorIs(x, 2, 1, 2, 0, 3, 0, -1);
+        expect.sectorIs(x, 3, 1, 4, 0, 1, 0, -1);
+        expect.personIs(x, 1, 2, -1, 0);
+        expect.personIs(x, 2, 2, 2, 0);
         x.offer(3, 3);
         x.offer(2, 1);
         expect.passes(() -> x.join(2, 3));
-        sectorIs(x, 2, 0, -1, 0, 0, 0, -1);
-        sectorIs(x, 3, 1, 4, 0, 4, 0, 3);
-        personIs(x, 2, 3, -1, 0);
+        expect.sectorIs(x, 2, 0, -1, 0, 0, 0, -1);
+        expect.sectorIs(x, 3, 1, 4, 0, 4, 0, 3);
+        expect.personIs(x, 2, 3, -1, 0);
         expect.refuses(STATE, () -> x.take(2, 1));
         expect.answer(1, () -> x.led(1, 4));
         expect.answer(-1, () -> x.led(1, 5));
@@ -316,7 +280,7 @@ public final class PromisesTest {
     private static void joinAndTasks() {
         expect.promise("promise 9, join and tasks");
         CommandTree x = new CommandTree();
-        splitTimes(x, 0, 2);
+        Scene.split(x, 0, 2);
         x.task(1, 3);
         x.task(1, 90);
         x.task(1, 90);
@@ -328,20 +292,20 @@ public final class PromisesTest {
         x.answer(3, false);
         x.answer(5, true);
         expect.passes(() -> x.join(1, 0));
-        taskIs(x, 0, 0, 3, -1);
-        taskIs(x, 1, 0, 0, -1);
-        taskIs(x, 2, 1, 1, 4);
-        taskIs(x, 3, 1, 2, 4);
-        taskIs(x, 4, 2, 0, -1);
-        taskIs(x, 5, 1, 1, 4);
+        expect.taskIs(x, 0, 0, 3, -1);
+        expect.taskIs(x, 1, 0, 0, -1);
+        expect.taskIs(x, 2, 1, 1, 4);
+        expect.taskIs(x, 3, 1, 2, 4);
+        expect.taskIs(x, 4, 2, 0, -1);
+        expect.taskIs(x, 5, 1, 1, 4);
         expect.passes(() -> x.answer(0, false));
     }
 
     private static void offer() {
         expect.promise("promise 10, offer");
-        CommandTree x = sceneWith(1, 2, 3);
+        CommandTree x = Scene.withRanks(1, 2, 3);
         x.person(4);
-        splitTimes(x, 0, 3);
+        Scene.split(x, 0, 3);
         x.go(2, 1);
         expect.refuses(UNKNOWN, () -> x.offer(4, 1), () -> x.offer(-1, 1), () -> x.offer(0, 4),
                 () -> x.offer(0, -1), () -> x.offer(LOW, HIGH));
@@ -362,11 +326,11 @@ public final class PromisesTest {
 
     private static void offersGone() {
         expect.promise("promise 10, offers that are gone");
-        CommandTree x = sceneWith(5, 4, 3, 2);
-        splitTimes(x, 0, 2);
+        CommandTree x = Scene.withRanks(5, 4, 3, 2);
+        Scene.split(x, 0, 2);
         x.offer(0, 3);
         x.leave(0);
-        sectorIs(x, 0, 1, 1, -1, 3, 0, -1);
+        expect.sectorIs(x, 0, 1, 1, -1, 3, 0, -1);
         x.offer(0, 3);
         x.leave(3);
         expect.answer(-1, () -> x.sectorAt(0, 5));
@@ -390,16 +354,16 @@ public final class PromisesTest {
         x.arrive(2);
         x.offer(2, 2);
         x.leave(3);
-        sectorIs(x, 2, 1, -1, 0, 0, 0, -1);
+        expect.sectorIs(x, 2, 1, -1, 0, 0, 0, -1);
         x.arrive(3);
         x.go(3, 2);
-        sectorIs(x, 2, 1, 3, 0, 1, 0, -1);
+        expect.sectorIs(x, 2, 1, 3, 0, 1, 0, -1);
         expect.refuses(STATE, () -> x.take(2, 2));
     }
 
     private static void take() {
         expect.promise("promise 11, take");
-        CommandTree x = sceneWith(1, 2, 3);
+        CommandTree x = Scene.withRanks(1, 2, 3);
         x.split(0);
         x.go(2, 1);
         expect.refuses(UNKNOWN, () -> x.take(2, 1), () -> x.take(-1, 1), () -> x.take(0, 3), () -> x.take(0, -1),
@@ -410,10 +374,10 @@ public final class PromisesTest {
         x.tick(6);
         expect.refuses(STATE, () -> x.take(1, 0), () -> x.take(1, 2));
         expect.passes(() -> x.take(1, 1));
-        sectorIs(x, 1, 1, 1, 0, 2, 0, -1);
-        sectorIs(x, 0, 1, 0, -1, 1, 0, -1);
-        personIs(x, 1, 1, 1, 0);
-        personIs(x, 2, 1, -1, 0);
+        expect.sectorIs(x, 1, 1, 1, 0, 2, 0, -1);
+        expect.sectorIs(x, 0, 1, 0, -1, 1, 0, -1);
+        expect.personIs(x, 1, 1, 1, 0);
+        expect.personIs(x, 2, 1, -1, 0);
         expect.refuses(STATE, () -> x.take(1, 1), () -> x.take(0, 1));
         expect.answer(2, () -> x.led(1, 5));
         expect.answer(1, () -> x.led(1, 6));
@@ -422,12 +386,12 @@ public final class PromisesTest {
     private static void task() {
         expect.promise("promise 12, task");
         CommandTree x = new CommandTree();
-        splitTimes(x, 0, 2);
+        Scene.split(x, 0, 2);
         x.tick(10);
         x.join(2, 0);
         expect.answer(0, () -> x.task(1, 10));
         expect.answer(1, () -> x.task(0, 99999));
-        taskIs(x, 0, 1, 0, -1);
+        expect.taskIs(x, 0, 1, 0, -1);
         expect.refuses(UNKNOWN, () -> x.task(3, 50), () -> x.task(-1, 50), () -> x.task(3, 9), () -> x.task(LOW, HIGH));
         expect.refuses(RANGE, () -> x.task(0, 9), () -> x.task(0, 100000), () -> x.task(0, LOW), () -> x.task(0, HIGH),
                 () -> x.task(2, 9), () -> x.task(2, 100000));
@@ -451,27 +415,27 @@ public final class PromisesTest {
         expect.refuses(UNKNOWN, () -> x.answer(3, true), () -> x.answer(-1, false), () -> x.answer(LOW, true),
                 () -> x.answer(HIGH, true));
         expect.passes(() -> x.answer(0, true));
-        taskIs(x, 0, 0, 1, 0);
+        expect.taskIs(x, 0, 0, 1, 0);
         x.tick(6);
         expect.passes(() -> x.answer(1, false));
-        taskIs(x, 1, 0, 2, 6);
+        expect.taskIs(x, 1, 0, 2, 6);
         expect.passes(() -> x.answer(2, true));
-        taskIs(x, 2, 0, 1, 6);
+        expect.taskIs(x, 2, 0, 1, 6);
         x.tick(1);
         expect.refuses(STATE, () -> x.answer(0, true), () -> x.answer(0, false), () -> x.answer(1, true),
                 () -> x.answer(2, false));
-        taskIs(x, 0, 0, 1, 0);
-        taskIs(x, 1, 0, 2, 6);
+        expect.taskIs(x, 0, 0, 1, 0);
+        expect.taskIs(x, 1, 0, 2, 6);
     }
 
     private static void span() {
         expect.promise("promise 14, span");
-        CommandTree x = sceneWith(3, 2);
+        CommandTree x = Scene.withRanks(3, 2);
         for (int i = 0; i < 20; i++) {
             x.place(x.unit(), 0);
         }
         expect.answer(0, () -> x.span(20));
-        splitTimes(x, 0, 1);
+        Scene.split(x, 0, 1);
         expect.answer(1, () -> x.span(20));
         expect.refuses(RANGE, () -> x.span(0), () -> x.span(21), () -> x.span(-1), () -> x.span(LOW), () -> x.span(HIGH));
         expect.answer(1, () -> x.sectorAt(0, 6));
@@ -500,7 +464,7 @@ public final class PromisesTest {
         expect.answer(1, () -> x.tick(1));
         x.answer(1, false);
         expect.answer(1, () -> x.tick(1));
-        taskIs(x, 3, 0, 0, -1);
+        expect.taskIs(x, 3, 0, 0, -1);
         expect.answer(2, () -> x.tick(5000));
         expect.answer(0, () -> x.tick(1));
         expect.answer(5003, x::clock);
@@ -513,14 +477,14 @@ public final class PromisesTest {
         x.task(0, 99999);
         expect.answer(1, () -> x.tick(4996));
         expect.answer(99999, x::clock);
-        taskIs(x, 6, 0, 0, -1);
+        expect.taskIs(x, 6, 0, 0, -1);
         expect.refuses(RANGE, () -> x.tick(1), () -> x.tick(5000));
         expect.answer(99999, x::clock);
     }
 
     private static void led() {
         expect.promise("promise 16, led");
-        CommandTree x = sceneWith(1, 2);
+        CommandTree x = Scene.withRanks(1, 2);
         x.tick(10);
         x.leave(0);
         x.arrive(0);
@@ -554,8 +518,8 @@ public final class PromisesTest {
     /** Person 1 goes to and fro: two changes of leaders for each step, one step in a second. */
     private static void ledRowsDropped() {
         expect.promise("promise 16, led and rows that are not kept");
-        CommandTree x = sceneWith(5, 4);
-        splitTimes(x, 0, 3);
+        CommandTree x = Scene.withRanks(5, 4);
+        Scene.split(x, 0, 3);
         x.go(0, 3);
         // rows so far: 0 leads sector 0; 1 leads sector 0; 0 leads sector 3
         x.tick(1);
@@ -600,21 +564,21 @@ public final class PromisesTest {
 
     private static void sectorAt() {
         expect.promise("promise 17, sectorAt");
-        CommandTree x = sceneWith(1, 2, 3);
-        splitTimes(x, 0, 4);
+        CommandTree x = Scene.withRanks(1, 2, 3);
+        Scene.split(x, 0, 4);
         x.split(1);
         x.place(x.unit(), 0);
         x.place(x.unit(), 0);
         x.unit();
         x.offer(0, 2);
         x.go(1, 1);
-        sectorIs(x, 0, 1, 0, -1, 2, 2, 2, 1, 4);
-        sectorIs(x, 1, 1, 1, 0, 1, 0, -1, 0, 1);
+        expect.sectorIs(x, 0, 1, 0, -1, 2, 2, 2, 1, 4);
+        expect.sectorIs(x, 1, 1, 1, 0, 1, 0, -1, 0, 1);
         x.place(1, 1);
-        sectorIs(x, 0, 1, 0, -1, 2, 1, 2, 0, 4);
+        expect.sectorIs(x, 0, 1, 0, -1, 2, 1, 2, 0, 4);
         x.join(1, 4);
-        sectorIs(x, 1, 0, -1, 0, 0, 0, -1, 0, 0);
-        sectorIs(x, 4, 1, 1, 0, 1, 1, -1, 0, 1);
+        expect.sectorIs(x, 1, 0, -1, 0, 0, 0, -1, 0, 0);
+        expect.sectorIs(x, 4, 1, 1, 0, 1, 1, -1, 0, 1);
         expect.answer(3, () -> x.sectorAt(0, 7));
         expect.refuses(UNKNOWN, () -> x.sectorAt(6, 0), () -> x.sectorAt(-1, 0), () -> x.sectorAt(0, 8),
                 () -> x.sectorAt(0, -1), () -> x.sectorAt(LOW, 0), () -> x.sectorAt(0, HIGH));
@@ -622,21 +586,21 @@ public final class PromisesTest {
 
     private static void personAt() {
         expect.promise("promise 18, personAt");
-        CommandTree x = sceneWith(1);
+        CommandTree x = Scene.withRanks(1);
         x.person(2);
         x.split(0);
         x.tick(3);
-        personIs(x, 0, 0, 0, 0);
-        personIs(x, 1, -1, -1, -1);
+        expect.personIs(x, 0, 0, 0, 0);
+        expect.personIs(x, 1, -1, -1, -1);
         x.go(0, 1);
         x.arrive(1);
-        personIs(x, 0, 1, 1, 0);
-        personIs(x, 1, 0, 0, 3);
+        expect.personIs(x, 0, 1, 1, 0);
+        expect.personIs(x, 1, 0, 0, 3);
         x.go(1, 1);
-        personIs(x, 1, 1, -1, 3);
+        expect.personIs(x, 1, 1, -1, 3);
         x.leave(0);
-        personIs(x, 0, -1, -1, -1);
-        personIs(x, 1, 1, 1, 3);
+        expect.personIs(x, 0, -1, -1, -1);
+        expect.personIs(x, 1, 1, 1, 3);
         expect.refuses(UNKNOWN, () -> x.personAt(2, 0), () -> x.personAt(-1, 0), () -> x.personAt(0, 3),
                 () -> x.personAt(0, -1), () -> x.personAt(HIGH, LOW));
     }
@@ -661,28 +625,28 @@ public final class PromisesTest {
         CommandTree x = new CommandTree();
         x.split(0);
         x.task(1, 4);
-        taskIs(x, 0, 1, 0, -1);
+        expect.taskIs(x, 0, 1, 0, -1);
         x.tick(4);
-        taskIs(x, 0, 1, 0, -1);
+        expect.taskIs(x, 0, 1, 0, -1);
         x.tick(1);
-        taskIs(x, 0, 1, 3, -1);
+        expect.taskIs(x, 0, 1, 3, -1);
         x.tick(2);
         x.answer(0, false);
         x.tick(1);
-        taskIs(x, 0, 1, 2, 7);
+        expect.taskIs(x, 0, 1, 2, 7);
         expect.refuses(UNKNOWN, () -> x.taskAt(1, 0), () -> x.taskAt(-1, 0), () -> x.taskAt(0, 3),
                 () -> x.taskAt(0, -1), () -> x.taskAt(LOW, HIGH));
     }
 
     private static void passed() {
         expect.promise("promise 21, passed");
-        CommandTree x = sceneWith(3, 2, 1);
-        splitTimes(x, 0, 5);
+        CommandTree x = Scene.withRanks(3, 2, 1);
+        Scene.split(x, 0, 5);
         expect.answer(-1, () -> x.passed(0));
-        splitTimes(x, 2, 5);
+        Scene.split(x, 2, 5);
         x.place(x.unit(), 0);
         x.place(x.unit(), 2);
-        splitTimes(x, 4, 6);
+        Scene.split(x, 4, 6);
         expect.answer(0, () -> x.passed(0));
         expect.answer(-1, () -> x.passed(1));
         x.go(1, 4);
